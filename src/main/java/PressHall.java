@@ -977,7 +977,6 @@ public final class PressHall {
         }
 
         private void tryTwoPages(Story story, int count) {
-            trial.clear();
             trial.paragraphs = count;
             for (int ahead = count - 1; ahead >= 1; ahead--) {
                 int size = story.cellsFor(0, ahead);
@@ -1182,7 +1181,7 @@ public final class PressHall {
         /** Whether the set has the long form at the first word in which it differs from the other. */
         private static boolean isLongFirst(int set, int other) {
             int differing = set ^ other;
-            return (set & Integer.lowestOneBit(differing)) != 0;
+            return (set & differing & -differing) != 0;
         }
     }
 

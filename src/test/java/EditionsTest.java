@@ -253,11 +253,13 @@ public final class EditionsTest {
         PressHall hall = withEdition(3);
         hall.advert(0, 1, 1, false, -1, -1);
         hall.place(0);
+        hall.lift(0);
         for (int story = 0; story < 3; story++) {
             hall.correct(0, story);
             hall.placeCorrection();
         }
         hall.lift(1);
+        CHECKS.is("correction in the first cell", 300, hall.cell(0, 0));
         signByTwo(hall, 0);
         hall.close();
         CHECKS.is("clean of another page", 0, hall.clean(1));
@@ -266,7 +268,7 @@ public final class EditionsTest {
         CHECKS.is("clean", 3, hall.clean(0));
         CHECKS.is("touched", 1, hall.touched());
         CHECKS.is("isReady, signatures gone", false, hall.isReady(0));
-        int[] due = {200, 100, 0, 0, 0, 0, 202, 0, 0, 0, 0, 0};
+        int[] due = {0, 100, 0, 0, 0, 0, 202, 0, 0, 0, 0, 0};
         for (int cell = 0; cell < 12; cell++) {
             CHECKS.is("cell " + cell, due[cell], hall.cell(0, cell));
         }

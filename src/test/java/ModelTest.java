@@ -18,7 +18,8 @@ public final class ModelTest {
         "page story lay lay change lift SIGNALL SIGNALL SIGNALL close printed printed correct correct placeCorrection"
             + " placeCorrection clean person sign sign hold hold isReady isReady pass truck late late touched cell",
         "page lay lay lay change lift SIGNALL SIGNALL SIGNALL close printed correct correct correct placeCorrection"
-            + " placeCorrection placeCorrection clean clean sign isReady pass truck late late late touched cell advert place",
+            + " placeCorrection placeCorrection clean clean sign isReady pass truck late late late touched cell advert"
+            + " place",
         "word word word fit fit fit fit dropWords weigh weigh crop crop crop wire wire wire take numbers solutions",
     };
 
@@ -88,8 +89,8 @@ public final class ModelTest {
             case "cell": return new int[] {below(10), below(12)};
             case "distance": return new int[] {below(4), below(10) * below(2)};
             case "advert":
-                return new int[] {below(4), 1 + below(3), 1 + below(4), below(2) * below(2), anyOf(-1, -1, -1, 0, 1, 2, 3),
-                    anyOf(-1, -1, -1, 0, 1, 2)};
+                return new int[] {below(4), 1 + below(3), 1 + below(4), below(2) * below(2),
+                    anyOf(-1, -1, -1, 0, 1, 2, 3), anyOf(-1, -1, -1, 0, 1, 2)};
             case "place":
             case "takeOff": return new int[] {one(model.advertCount())};
             case "advertsIn": return new int[] {below(3)};

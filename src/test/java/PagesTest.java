@@ -197,6 +197,26 @@ public final class PagesTest {
         CHECKS.is("place, free again", 800, hall.place(5));
     }
 
+    private static void placeBetween() {
+        CHECKS.begin("promise 7, rectangles");
+        PressHall hall = new PressHall();
+        for (int category = 0; category < 4; category++) {
+            hall.distance(category, 0);
+        }
+        hall.story(0, 9, 1);
+        hall.lay(0);
+        hall.advert(0, 1, 1, false, -1, -1);
+        hall.advert(0, 3, 2, false, -1, -1);
+        hall.advert(0, 2, 1, false, -1, -1);
+        hall.advert(0, 1, 2, false, -1, -1);
+        hall.advert(0, 2, 2, false, -1, -1);
+        CHECKS.is("place", 1, hall.place(0));
+        CHECKS.is("place below", 6, hall.place(1));
+        CHECKS.is("place just above what is taken", 4, hall.place(2));
+        CHECKS.is("place, not where a lower cell is taken", 100, hall.place(3));
+        CHECKS.is("place, not over the edge of the row", 101, hall.place(4));
+    }
+
     private static void placeByDistance() {
         CHECKS.begin("promise 7, distances");
         PressHall hall = new PressHall();
@@ -292,6 +312,7 @@ public final class PagesTest {
         distance();
         advert();
         place();
+        placeBetween();
         placeByDistance();
         placeByKind();
         takeOff();

@@ -81,10 +81,36 @@ public final class StoriesTest {
         CHECKS.is("lay on page 1 and behind", 5, hall.lay(1));
         CHECKS.is("first part of 19 lines on page 3", 30204, hall.part(1, 0));
         CHECKS.is("second part", 40004, hall.part(1, 1));
+        hall.story(0, 1, 1);
+        CHECKS.is("lay on one page after that", 1, hall.lay(2));
+        CHECKS.is("no second part", -1, hall.part(2, 1));
         hall.story(1, 45949, 3);
-        CHECKS.is("lay, page 1 with 9 lines", 5, hall.lay(2));
-        CHECKS.is("first part on page 1", 10802, hall.part(2, 0));
-        CHECKS.is("second part not ahead of it", 20005, hall.part(2, 1));
+        CHECKS.is("lay, page 1 with 9 lines", 5, hall.lay(3));
+        CHECKS.is("first part on page 1", 10802, hall.part(3, 0));
+        CHECKS.is("second part not ahead of it", 20005, hall.part(3, 1));
+    }
+
+    private static void layOnLowPages() {
+        CHECKS.begin("promise 11, low pages first, whatever plates they touch");
+        PressHall hall = new PressHall();
+        hall.page(0, 1, false);
+        hall.page(1, 2, false);
+        hall.page(2, 1, false);
+        hall.advert(0, 1, 3, false, 1, -1);
+        hall.advert(1, 2, 4, false, 1, -1);
+        hall.advert(0, 1, 3, false, 1, -1);
+        hall.advert(1, 2, 4, false, 1, -1);
+        CHECKS.is("place", 0, hall.place(0));
+        CHECKS.is("place", 1, hall.place(1));
+        CHECKS.is("place", 200, hall.place(2));
+        CHECKS.is("place", 201, hall.place(3));
+        // Free is the cell 9 of the pages 0 and 2; so one paragraph goes ahead.
+        hall.story(1, 55, 2);
+        CHECKS.is("lay", 2, hall.lay(0));
+        CHECKS.is("first part on page 0", 901, hall.part(0, 0));
+        CHECKS.is("second part on page 3", 30001, hall.part(0, 1));
+        CHECKS.is("cells", 200, hall.cell(3, 0));
+        CHECKS.is("touched", 3, hall.touched());
     }
 
     private static void layFewer() {
@@ -206,6 +232,10 @@ public final class StoriesTest {
         CHECKS.is("touched", 4, hall.touched());
         CHECKS.is("change from the plate 0 to the plate 2", 1, hall.change(1, 0));
         CHECKS.is("the first way of those that touch as few", 2, hall.part(0, 0));
+        int[] due = {200, 0, 0, 200, 0, 0, 0, 0, 0, 0, 0, 0};
+        for (int cell = 0; cell < 12; cell++) {
+            CHECKS.is("cell " + cell, due[cell], hall.cell(0, cell));
+        }
         CHECKS.is("touched", 5, hall.touched());
     }
 
@@ -262,6 +292,79 @@ public final class StoriesTest {
         CHECKS.is("touched", 9, hall.touched());
     }
 
+    /** A hall whose story 0, of section 1, lies on the cell 9 of page 1 and the cell 0 of page 4, in an edition. */
+    private static PressHall withTwoParts() {
+        PressHall hall = new PressHall();
+        hall.page(1, 1, false);
+        hall.page(2, 2, false);
+        hall.page(3, 2, false);
+        hall.place(hall.advert(0, 3, 3, false, 1, -1));
+        hall.story(1, 55, 2);
+        hall.lay(0);
+        CHECKS.is("first part", 10901, hall.part(0, 0));
+        CHECKS.is("second part", 40001, hall.part(0, 1));
+        for (int page : new int[] {1, 4}) {
+            hall.sign(page, 0);
+            hall.sign(page, 1);
+        }
+        hall.close();
+        hall.story(0, 999999, 6);
+        return hall;
+    }
+
+    private static void changeOfTwoPlates() {
+        CHECKS.begin("promise 13, what goes touches two plates");
+        PressHall hall = withTwoParts();
+        CHECKS.is("change, the plates 0 and 2", 2, hall.change(0, 1));
+        CHECKS.is("part on page 0, as costless as page 4", 11, hall.part(1, 0));
+        CHECKS.is("touched", 5, hall.touched());
+        CHECKS.is("cell of the first part", 0, hall.cell(1, 9));
+        CHECKS.is("cell of the second part", 0, hall.cell(4, 0));
+        CHECKS.is("isReady, signatures gone", false, hall.isReady(1));
+
+        PressHall other = withTwoParts();
+        other.place(other.advert(1, 3, 4, false, 0, -1));
+        other.sign(0, 0);
+        other.sign(0, 1);
+        other.close();
+        other.page(2, 0, false);
+        CHECKS.is("change, the plates 0 and 2", 2, other.change(0, 1));
+        CHECKS.is("part on page 4, not on page 2", 40011, other.part(1, 0));
+        CHECKS.is("touched", 5, other.touched());
+    }
+
+    private static void changeByPlateOfFirstPart() {
+        CHECKS.begin("promise 13, the plate of a first part");
+        PressHall hall = new PressHall();
+        hall.page(1, 1, false);
+        hall.page(2, 2, false);
+        hall.page(3, 1, false);
+        hall.place(hall.advert(0, 3, 3, false, 1, -1));
+        hall.place(hall.advert(0, 3, 3, false, 1, -1));
+        for (int story = 0; story < 4; story++) {
+            hall.story(1, 5, 1);
+            hall.lay(story);
+        }
+        CHECKS.is("part", 30901, hall.part(3, 0));
+        hall.lift(0);
+        for (int page : new int[] {1, 3}) {
+            hall.sign(page, 0);
+            hall.sign(page, 1);
+        }
+        hall.close();
+        hall.page(4, 3, false);
+        hall.place(hall.advert(1, 1, 1, false, 3, -1));
+        hall.takeOff(2);
+        hall.page(4, 0, false);
+        CHECKS.is("touched", 4, hall.touched());
+        hall.story(1, 55, 2);
+        // Page 1 has a cell too, but is on a plate that is not touched.
+        CHECKS.is("change", 1, hall.change(3, 4));
+        CHECKS.is("first part", 30901, hall.part(4, 0));
+        CHECKS.is("second part", 40001, hall.part(4, 1));
+        CHECKS.is("touched", 6, hall.touched());
+    }
+
     private static void part() {
         CHECKS.begin("promise 14");
         PressHall hall = new PressHall();
@@ -289,6 +392,7 @@ public final class StoriesTest {
         story();
         layOnOnePage();
         layInTwoParts();
+        layOnLowPages();
         layFewer();
         lift();
         changeErrors();
@@ -296,6 +400,8 @@ public final class StoriesTest {
         changeTouchesLeast();
         changeInTwoParts();
         changeByTouchedPlate();
+        changeOfTwoPlates();
+        changeByPlateOfFirstPart();
         part();
         CHECKS.end();
     }
