@@ -43,6 +43,15 @@ final class Checks {
         }
     }
 
+    /** The answer of a call as a text, or the exception that it throws. */
+    static String answerOf(Call call) {
+        try {
+            return Long.toString(call.answer());
+        } catch (RuntimeException e) {
+            return "throws " + e.getClass().getSimpleName();
+        }
+    }
+
     void end() {
         System.out.println(made + " checks, " + wrong + " wrong");
         if (wrong != 0 || made == 0) {

@@ -121,19 +121,11 @@ public final class ModelTest {
         }
     }
 
-    private static String answerOf(Checks.Call call) {
-        try {
-            return Long.toString(call.answer());
-        } catch (RuntimeException e) {
-            return "throws " + e.getClass().getSimpleName();
-        }
-    }
-
     private boolean makesTheSame(String name, int[] arguments) {
         int call = Arrays.asList(Calls.NAMES).indexOf(name);
         int[] six = Arrays.copyOf(arguments, 6);
-        String due = answerOf(() -> Calls.make(model, call, six));
-        String got = answerOf(() -> Calls.make(hall, call, six));
+        String due = Checks.answerOf(() -> Calls.make(model, call, six));
+        String got = Checks.answerOf(() -> Calls.make(hall, call, six));
         told.append(name).append(Arrays.toString(arguments)).append(" -> ").append(got).append('\n');
         made++;
         if (!due.equals(got)) {
