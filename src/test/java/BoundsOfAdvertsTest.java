@@ -41,7 +41,11 @@ public final class BoundsOfAdvertsTest {
             }
             CHECKS.is("distance before", 9, hall.distance(category, 9));
         }
-        BUSY.refuseOutside("distance", Checks.ARGUMENT, 0, 9, (hall, distance) -> hall.distance(2, distance));
+        for (int i = 0; i < 4; i++) {
+            int category = i;
+            BUSY.refuseOutside("distance", Checks.ARGUMENT, 0, 9,
+                    (hall, distance) -> hall.distance(category, distance));
+        }
     }
 
     private static void notOnTheSamePageAtFirst() {

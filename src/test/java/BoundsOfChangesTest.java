@@ -84,6 +84,44 @@ public final class BoundsOfChangesTest {
         }
     }
 
+    /** Page 0, 2, 4 and 6 have a cell for the story 4, that lies on one of them, and for a fresh one. */
+    private static PressHall withOldOn(int page) {
+        PressHall hall = Halls.drawn(("1" + ONE + ",3" + SHUT + ",1" + ONE + ",3" + SHUT + ",1" + ONE + ",3" + SHUT
+                + ",1" + ONE).split(","));
+        int before = page / 2;
+        hall.story(1, 5, 1);
+        for (int i = 0; i < before; i++) {
+            hall.lay(hall.story(1, 5, 1));
+        }
+        hall.lay(4);
+        for (int i = 0; i < before; i++) {
+            hall.lift(5 + i);
+        }
+        CHECKS.is("part of the old one", 10000 * page + 1, hall.part(4, 0));
+        Halls.closeSigned(hall);
+        return hall;
+    }
+
+    private static void whatGoesFromEachPlate() {
+        CHECKS.begin("late changes, the fewest plates, by it and by what goes, from each plate");
+        for (int page = 0; page < 7; page += 2) {
+            for (int plates = 0; plates < 16; plates++) {
+                PressHall hall = withOldOn(page);
+                touch(hall, plates);
+                int best = 0;
+                int fewest = 9;
+                for (int plate = 0; plate < 4; plate++) {
+                    int anew = Integer.bitCount((1 << page / 2 | 1 << plate) & ~plates);
+                    if (anew < fewest) {
+                        fewest = anew;
+                        best = plate;
+                    }
+                }
+                change(hall, fewest, 1, 5, 1, 20000 * best + 1, -1);
+            }
+        }
+    }
+
     private static void withTheCellsOfThatOneFree() {
         CHECKS.begin("late changes, laid out with the cells of that one free");
         change(withOld("1" + TWO, 1, 55), 1, 1, 91, 2, 2, -1);
@@ -239,6 +277,7 @@ public final class BoundsOfChangesTest {
     public static void main(String[] args) {
         theFewestPlatesOnOnePage();
         byItAndByWhatGoes();
+        whatGoesFromEachPlate();
         withTheCellsOfThatOneFree();
         theSectionsStay();
         onlyTheFirstNForWhichThereIsAWay();

@@ -162,6 +162,61 @@ public final class BoundsOfEditionsTest {
         }
     }
 
+    /** All pages are signed by the people 4 and 5, and no plate is touched, before a call that changes pages. */
+    private static void changesPages(String what, PressHall hall, Twins.Question call, int... pages) {
+        for (int person : new int[] {4, 4, 5, 5}) {
+            hall.person(person);
+        }
+        for (int page = 0; page < 10; page++) {
+            hall.sign(page, 4);
+            hall.sign(page, 5);
+        }
+        hall.close();
+        call.to(hall);
+        int plates = 0;
+        boolean[] changed = new boolean[10];
+        for (int page : pages) {
+            plates |= 1 << (page / 2);
+            changed[page] = true;
+        }
+        CHECKS.is(what + ", touched", plates, hall.touched());
+        for (int page = 0; page < 10; page++) {
+            int asked = page;
+            if (changed[page]) {
+                CHECKS.is(what + ", sign, all being gone", 1, hall.sign(page, 4));
+            } else {
+                CHECKS.throwsIt(what + ", sign, none being gone", Checks.STATE, () -> hall.sign(asked, 4));
+            }
+        }
+    }
+
+    private static void eachKindOfChangeOfACell() {
+        CHECKS.begin("changes, a plate is touched, and all signatures go, by each change of a cell");
+        String[] pages = {"1 .## ### ### ###", "2" + SHUT, "0 ### ### ### ##.", "2" + SHUT, "2" + SHUT,
+            "0 ### ### ### ##."};
+        for (int cellOf = 7; cellOf < 10; cellOf++) {
+            int page = cellOf;
+            PressHall hall = new PressHall();
+            hall.advert(0, 1, 1, false, -1, page - 7);
+            changesPages("place", hall, other -> other.place(0), page);
+            changesPages("takeOff", withTaken(page), other -> other.takeOff(0), page);
+        }
+        PressHall one = Halls.drawn(pages);
+        one.story(0, 5, 1);
+        changesPages("lay on one page", one, hall -> hall.lay(4), 2);
+        changesPages("lift of one page", one, hall -> hall.lift(4), 2);
+        PressHall two = Halls.drawn(pages);
+        two.story(1, 55, 2);
+        changesPages("lay in two parts", two, hall -> hall.lay(4), 0, 2);
+        two.story(0, 55, 2);
+        changesPages("change to two parts", two, hall -> hall.change(4, 5), 0, 2, 5);
+        changesPages("lift of two parts", two, hall -> hall.lift(5), 2, 5);
+        PressHall last = Halls.drawn(pages);
+        changesPages("placeCorrection", last, hall -> hall.correct(0, 1) + hall.placeCorrection(), 0);
+        changesPages("clean", last, hall -> hall.clean(5), 5);
+        changesPages("clean without corrections", last, hall -> hall.clean(6));
+    }
+
     // ---- promise 17
 
     private static void argumentsOfHold() {
@@ -444,6 +499,24 @@ public final class BoundsOfEditionsTest {
         CHECKS.is("correct, in the last edition", 3, hall.correct(1, 2));
     }
 
+    private static void aCorrectionOfItIsNotTheStory() {
+        CHECKS.begin("promise 21, if the edition does not have the story: a correction of it is none");
+        Twins corrected = new Twins(CHECKS, () -> {
+            PressHall hall = withStories(1);
+            hall.correct(0, 0);
+            hall.placeCorrection();
+            hall.lift(0);
+            Halls.closeSigned(hall);
+            return hall;
+        });
+        corrected.refuse("correct, by the edition with its correction", Checks.STATE, hall -> hall.correct(1, 0));
+        PressHall hall = withStories(1);
+        hall.correct(0, 0);
+        hall.placeCorrection();
+        hall.lift(0);
+        CHECKS.is("correct, by the edition with the story", 1, hall.correct(0, 0));
+    }
+
     private static void theEditionHasItInAnyCell() {
         CHECKS.begin("promise 21, a story that an edition in the archive has, in whatever cell");
         for (int cell = 0; cell < 12; cell++) {
@@ -505,6 +578,13 @@ public final class BoundsOfEditionsTest {
         CHECKS.begin("promise 22, if none is owed");
         Twins none = new Twins(CHECKS, () -> withStories(2));
         none.refuse("placeCorrection", Checks.STATE, PressHall::placeCorrection);
+        Twins allPlaced = new Twins(CHECKS, () -> {
+            PressHall hall = Halls.busy();
+            hall.placeCorrection();
+            hall.placeCorrection();
+            return hall;
+        });
+        allPlaced.refuse("placeCorrection, all being placed", Checks.STATE, PressHall::placeCorrection);
         PressHall hall = withStories(2);
         hall.correct(0, 1);
         CHECKS.is("placeCorrection", 1, hall.placeCorrection());
@@ -572,6 +652,14 @@ public final class BoundsOfEditionsTest {
         });
         // The one behind it could be placed; but it is owed less long.
         noRoom.keep("placeCorrection, the pages of its section being full", -1, PressHall::placeCorrection);
+        Twins fullPage = new Twins(CHECKS, () -> {
+            PressHall hall = Halls.busy();
+            hall.placeCorrection();
+            CHECKS.is("lay on page 3", 6, hall.lay(hall.story(2, 999999, 6)));
+            CHECKS.is("lay on its last cell", 1, hall.lay(hall.story(2, 1, 1)));
+            return hall;
+        });
+        fullPage.keep("placeCorrection, the page of its section being full", -1, PressHall::placeCorrection);
         PressHall hall = Halls.drawn("0" + SHUT, "1 ### ### ### ##.");
         hall.correct(0, 0);
         CHECKS.is("placeCorrection", -1, hall.placeCorrection());
@@ -661,6 +749,7 @@ public final class BoundsOfEditionsTest {
         signOfOneWhoHasSignedOrLeft();
         exceptionsOfSignInOrder();
         allSignaturesGoByEachChange();
+        eachKindOfChangeOfACell();
         argumentsOfHold();
         holdOfOneWhoHasLeft();
         exceptionsOfHoldInOrder();
@@ -684,6 +773,7 @@ public final class BoundsOfEditionsTest {
         argumentsOfCorrect();
         exceptionsOfCorrectInOrder();
         notIfTheEditionDoesNotHaveIt();
+        aCorrectionOfItIsNotTheStory();
         theEditionHasItInAnyCell();
         notIfOneOfItIsOwed();
         notIf5AreOwed();

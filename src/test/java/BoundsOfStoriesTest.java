@@ -316,6 +316,14 @@ public final class BoundsOfStoriesTest {
                 "0 " + FIRST_FREE[2]), 2, 20002);
     }
 
+    private static void whateverPlatesItTouches() {
+        CHECKS.begin("stories, for it the first way: to lay a story out no plates are counted");
+        isLaid(laidOut(2, 1, 55, 2, "1 " + FIRST_FREE[1], "2 " + SHUT, "1 " + FIRST_FREE[1], "0 " + FIRST_FREE[1]),
+                1, 30001);
+        isLaid(laidOut(3, 1, 555, 3, "1 " + FIRST_FREE[1], "0 " + FIRST_FREE[2], "1 " + FIRST_FREE[2], "2 " + SHUT,
+                "0 " + FIRST_FREE[1]), 20002, 40001);
+    }
+
     private static void onePageAheadOfTwo() {
         CHECKS.begin("stories, one page ahead of two, lower ones ahead");
         isLaid(laidOut(2, 0, 55, 2, "0 " + FIRST_FREE[1], "0 " + FIRST_FREE[1], "0 " + SHUT, "0 " + SHUT, "0 " + SHUT,
@@ -501,6 +509,7 @@ public final class BoundsOfStoriesTest {
         bothPartsOnPages0To6();
         theFirstPageIsAnyOf0To5();
         theOrderOfWaysInTwoParts();
+        whateverPlatesItTouches();
         onePageAheadOfTwo();
         moreParagraphsAheadOfOnePage();
         oneParagraphHasNoSecondPart();

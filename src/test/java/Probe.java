@@ -85,17 +85,17 @@ final class Probe {
     }
 
     private void askParts() {
-        for (int i = 0; i < 20; i++) {
-            int story = i;
-            ask(() -> hall.part(story, 0));
-            ask(() -> hall.part(story, 1));
-        }
         for (int i = 0; i < 8; i++) {
             int edition = i;
             for (int j = 0; j < 6; j++) {
                 int truck = j;
                 ask(() -> hall.late(edition, truck));
             }
+        }
+        for (int i = 0; i < 20; i++) {
+            int story = i;
+            ask(() -> hall.part(story, 0));
+            ask(() -> hall.part(story, 1));
         }
     }
 

@@ -66,6 +66,12 @@ final class Twins {
         for (int argument : new int[] {lowest - 1, highest + 1, Integer.MIN_VALUE, Integer.MAX_VALUE}) {
             refuse(what + " " + argument, want, hall -> call.to(hall, argument));
         }
+        // With 100 more or less, what takes a cell would be taken for something else.
+        for (int argument : new int[] {-200, -100, 100, 200}) {
+            if (argument < lowest || argument > highest) {
+                refuse(what + " " + argument, want, hall -> call.to(hall, argument));
+            }
+        }
         for (int far : FAR) {
             for (int argument : new int[] {lowest + far, highest + far}) {
                 if (argument < lowest || argument > highest) {
